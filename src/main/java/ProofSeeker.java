@@ -65,15 +65,8 @@ public final class ProofSeeker {
     }
 
     public int told(int f, int what) {
-        if (!statementStore.holds(f)) {
-            return BAD;
-        }
-        switch (what) {
-            case 0: return statementStore.sortOf(f);
-            case 1: return statementStore.leftOf(f);
-            case 2: return statementStore.rightOf(f);
-            default: return BAD;
-        }
+        boolean known = statementStore.holds(f) && what >= 0 && what <= 2;
+        return known ? statementStore.read(f, what) : BAD;
     }
 
     public int statements() {
@@ -110,17 +103,8 @@ public final class ProofSeeker {
     }
 
     public int of(int node, int what) {
-        if (!nodeStore.holds(node)) {
-            return BAD;
-        }
-        switch (what) {
-            case 0: return nodeStore.tagOf(node);
-            case 1: return nodeStore.goalOf(node);
-            case 2: return nodeStore.firstOf(node);
-            case 3: return nodeStore.secondOf(node);
-            case 4: return nodeStore.thirdOf(node);
-            default: return BAD;
-        }
+        boolean known = nodeStore.holds(node) && what >= 0 && what <= 4;
+        return known ? nodeStore.read(node, what) : BAD;
     }
 
     public int wellMade(int node) {
@@ -154,72 +138,131 @@ public final class ProofSeeker {
         return yes ? 1 : 0;
     }
 
-    /** Numbers by index; grows as it is written, so that a new object costs little room. */
-    private static final class Row {
-        private static final int LAST = MOST_NODES;
+    /**
+     * Rows of five numbers, kept once each and numbered from 1. Room is taken as it is needed, so
+     * that a new object costs little of it.
+     */
+    private static final class Kept {
+        private static final int NUMBERS = 5;
+        private static final int WIDTH = NUMBERS + 1;
+        private static final int BUCKETS = 1024;
 
-        private int[] cells = new int[16];
+        private final int most;
+        /** By bucket, its latest row; behind the numbers of a row, the one before it there. */
+        private final int[] heads = new int[BUCKETS];
+        private int[] cells = new int[16 * WIDTH];
+        private int size = 0;
 
-        int get(int i) {
-            return i >= 0 && i < cells.length ? cells[i] : 0;
+        Kept(int most) {
+            this.most = most;
         }
 
-        void put(int i, int value) {
-            if (i < 0 || i > LAST) {
-                return;
+        int size() {
+            return size;
+        }
+
+        int get(int row, int column) {
+            boolean inside = row >= 1 && row <= size && column >= 0 && column < NUMBERS;
+            return inside ? cells[row * WIDTH + column] : 0;
+        }
+
+        /** The row with these numbers, 0 if there is none. */
+        int find(int a, int b, int c, int d, int e) {
+            int row = heads[bucketOf(a, b, c, d, e)];
+            for (int seen = 0; seen < size && row >= 1 && row <= size; seen++) {
+                int at = row * WIDTH;
+                if (cells[at] == a && cells[at + 1] == b && cells[at + 2] == c
+                        && cells[at + 3] == d && cells[at + 4] == e) {
+                    return row;
+                }
+                row = cells[at + NUMBERS];
             }
-            if (i >= cells.length) {
-                cells = Arrays.copyOf(cells, Math.max(i + 1, 2 * cells.length));
+            return 0;
+        }
+
+        /** Makes a row that is not there: its number, or FULL. */
+        int append(int a, int b, int c, int d, int e) {
+            if (size >= most) {
+                return FULL;
             }
-            cells[i] = value;
+            size++;
+            int at = size * WIDTH;
+            if (at + WIDTH > cells.length) {
+                cells = Arrays.copyOf(cells, 2 * cells.length);
+            }
+            cells[at] = a;
+            cells[at + 1] = b;
+            cells[at + 2] = c;
+            cells[at + 3] = d;
+            cells[at + 4] = e;
+            int bucket = bucketOf(a, b, c, d, e);
+            cells[at + NUMBERS] = heads[bucket];
+            heads[bucket] = size;
+            return size;
+        }
+
+        private static int bucketOf(int a, int b, int c, int d, int e) {
+            int mixed = (((a * 31 + b) * 31 + c) * 31 + d) * 31 + e;
+            return (mixed ^ mixed >>> 10) & BUCKETS - 1;
         }
     }
 
     /** Sets of statements, by row; a statement's number is its bit, and bit 0 is never set. */
     private static final class Sets {
-        private static final int LAST_ROW = MOST_NODES;
         private static final int WORDS = (MOST_STATEMENTS >> 6) + 1;
 
-        private long[] words = new long[4 * WORDS];
+        private long[] words;
         /** No row has a bit in a word above this one. */
         private int top = 0;
 
+        Sets(int rows) {
+            words = new long[rows * WORDS];
+        }
+
+        /** Makes sure that there is a row of this number, empty if it is new. */
+        void reach(int row) {
+            int needed = (row + 1) * WORDS;
+            if (needed > words.length) {
+                words = Arrays.copyOf(words, Math.max(needed, 2 * words.length));
+            }
+        }
+
         boolean has(int row, int f) {
-            return f > 0 && (word(row, f >> 6) >>> f & 1L) != 0;
+            return isInside(row, f) && (words[row * WORDS + (f >> 6)] >>> f & 1L) != 0;
         }
 
         void add(int row, int f) {
-            if (f > 0 && f <= MOST_STATEMENTS && reaches(row)) {
+            if (isInside(row, f)) {
                 words[row * WORDS + (f >> 6)] |= 1L << f;
                 top = Math.max(top, f >> 6);
             }
         }
 
         void remove(int row, int f) {
-            if (f > 0 && f <= MOST_STATEMENTS && reaches(row)) {
+            if (isInside(row, f)) {
                 words[row * WORDS + (f >> 6)] &= ~(1L << f);
             }
         }
 
         void clear(int row) {
-            if (reaches(row)) {
+            if (isRow(row)) {
                 Arrays.fill(words, row * WORDS, (row + 1) * WORDS, 0L);
             }
         }
 
         void copy(int from, int to) {
-            if (reaches(from) && reaches(to)) {
+            if (isRow(from) && isRow(to)) {
                 System.arraycopy(words, from * WORDS, words, to * WORDS, WORDS);
             }
         }
 
         /** Adds to one row what another has, but for one statement (0: but for none). */
         void merge(int to, int from, int but) {
-            if (!reaches(from) || !reaches(to)) {
+            if (!isRow(from) || !isRow(to)) {
                 return;
             }
             for (int w = 0; w <= top; w++) {
-                long more = word(from, w);
+                long more = words[from * WORDS + w];
                 if (but > 0 && w == but >> 6) {
                     more &= ~(1L << but);
                 }
@@ -229,21 +272,21 @@ public final class ProofSeeker {
 
         int count(int row) {
             int sum = 0;
-            for (int w = 0; w <= top; w++) {
-                sum += Long.bitCount(word(row, w));
+            for (int w = 0; w <= top && isRow(row); w++) {
+                sum += Long.bitCount(words[row * WORDS + w]);
             }
             return sum;
         }
 
         /** The least statement above f that is in a row here and in a row there; 0 if none is. */
         int leastShared(int row, Sets there, int thereRow, int f) {
-            if (f >= MOST_STATEMENTS) {
+            if (f >= MOST_STATEMENTS || !isRow(row) || !there.isRow(thereRow)) {
                 return 0;
             }
             int start = Math.max(f, 0) + 1;
             int end = Math.min(top, there.top);
             for (int w = start >> 6; w <= end; w++) {
-                long shared = word(row, w) & there.word(thereRow, w);
+                long shared = words[row * WORDS + w] & there.words[thereRow * WORDS + w];
                 if (w == start >> 6) {
                     shared &= -1L << start;
                 }
@@ -255,104 +298,84 @@ public final class ProofSeeker {
             return 0;
         }
 
-        private long word(int row, int w) {
-            boolean inside = row >= 0 && row < words.length / WORDS && w >= 0 && w < WORDS;
-            return inside ? words[row * WORDS + w] : 0L;
+        private boolean isRow(int row) {
+            return row >= 0 && row < words.length / WORDS;
         }
 
-        private boolean reaches(int row) {
-            if (row < 0 || row > LAST_ROW) {
-                return false;
-            }
-            int needed = (row + 1) * WORDS;
-            if (needed > words.length) {
-                words = Arrays.copyOf(words, Math.max(needed, 2 * words.length));
-            }
-            return true;
+        private boolean isInside(int row, int f) {
+            return f > 0 && f <= MOST_STATEMENTS && row >= 0 && row < words.length / WORDS;
         }
     }
 
-    /** The statements, kept once each. */
+    /** The statements. */
     private static final class StatementStore {
         /** Implications from a statement of sort s are of kind FROM + s; other kinds are sorts. */
         static final int FROM = 5;
 
-        private static final int BUCKETS = 256;
+        private static final int KINDS = FROM + IMPLIES + 1;
 
-        private final Row sorts = new Row();
-        private final Row lefts = new Row();
-        private final Row rights = new Row();
+        /** By statement its sort and its parts; of an atom the first part is its index. */
+        private final Kept kept = new Kept(MOST_STATEMENTS);
         /** By kind, the statements of it. */
-        private final Sets kinds = new Sets();
-        /** By bucket, its latest statement; by statement, the one before it in its bucket. */
-        private final int[] heads = new int[BUCKETS];
-        private final Row earlier = new Row();
-        private final Sets trueOnes = new Sets();
-        private int size = 0;
+        private final Sets kinds = new Sets(KINDS);
+        private final Sets trueOnes = new Sets(1);
 
         int size() {
-            return size;
+            return kept.size();
         }
 
         boolean holds(int f) {
-            return f >= 1 && f <= size;
+            return f >= 1 && f <= kept.size();
+        }
+
+        /** Column 0 is the sort, 1 and 2 are the parts. */
+        int read(int f, int column) {
+            return kept.get(f, column);
         }
 
         int sortOf(int f) {
-            return sorts.get(f);
+            return kept.get(f, 0);
         }
 
         int leftOf(int f) {
-            return lefts.get(f);
+            return kept.get(f, 1);
         }
 
         int rightOf(int f) {
-            return rights.get(f);
+            return kept.get(f, 2);
+        }
+
+        boolean isOf(int sort, int f) {
+            return f >= 1 && f <= kept.size() && kept.get(f, 0) == sort;
         }
 
         Sets byKind() {
             return kinds;
         }
 
-        /** The statement's number, or FULL; of an atom the left part is its index. */
+        /** The statement's number, or 0 if it was not made. */
+        int find(int sort, int left, int right) {
+            return kept.find(sort, left, right, 0, 0);
+        }
+
+        /** The statement's number, or FULL. */
         int make(int sort, int left, int right) {
-            int there = find(sort, left, right);
+            int there = kept.find(sort, left, right, 0, 0);
             if (there != 0) {
                 return there;
             }
-            if (size >= MOST_STATEMENTS) {
-                return FULL;
-            }
-            int bucket = bucketOf(sort, left, right);
-            size++;
-            sorts.put(size, sort);
-            lefts.put(size, left);
-            rights.put(size, right);
-            earlier.put(size, heads[bucket]);
-            heads[bucket] = size;
-            kinds.add(sort, size);
+            int made = kept.append(sort, left, right, 0, 0);
+            kinds.add(sort, made);
             if (sort == IMPLIES) {
-                kinds.add(FROM + sortOf(left), size);
+                kinds.add(FROM + kept.get(left, 0), made);
             }
-            return size;
-        }
-
-        /** The statement's number, or 0 if it was not made. */
-        int find(int sort, int left, int right) {
-            int f = heads[bucketOf(sort, left, right)];
-            for (int seen = 0; f != 0 && seen < MOST_STATEMENTS; seen++) {
-                if (sortOf(f) == sort && leftOf(f) == left && rightOf(f) == right) {
-                    return f;
-                }
-                f = earlier.get(f);
-            }
-            return 0;
+            return made;
         }
 
         /** Whether f is true by tables; parts have lower numbers, so one pass upwards tells. */
         boolean holdsWhen(int f, int atoms) {
             trueOnes.clear(0);
-            for (int s = 1; s <= f && s <= size; s++) {
+            for (int s = 1; s <= f && s <= kept.size(); s++) {
                 if (followsFromParts(s, atoms)) {
                     trueOnes.add(0, s);
                 }
@@ -371,30 +394,19 @@ public final class ProofSeeker {
                 default: return false;
             }
         }
-
-        private static int bucketOf(int sort, int left, int right) {
-            return (sort * 31 + left) * 31 + right & BUCKETS - 1;
-        }
     }
 
-    /** The nodes of proofs, kept once each, with what can be told of them when they are made. */
+    /** The nodes of proofs. What they are worth is judged in their order, as far as it is asked. */
     private static final class NodeStore {
         private static final int[] PARTS = {0, 1, 2, 2, 1, 1, 1, 1, 3, 1};
-        private static final int BUCKETS = 1024;
 
         private final StatementStore statementStore;
-        private final Row tags = new Row();
-        private final Row goals = new Row();
-        private final Row firsts = new Row();
-        private final Row seconds = new Row();
-        private final Row thirds = new Row();
-        private final Row sound = new Row();
+        /** By node its tag, its goal and its parts, 0 where it has none. */
+        private final Kept kept = new Kept(MOST_NODES);
         /** By node, what it rests on. */
-        private final Sets rested = new Sets();
-        /** By bucket, its latest node; by node, the one before it in its bucket. */
-        private final int[] heads = new int[BUCKETS];
-        private final Row earlier = new Row();
-        private int size = 0;
+        private final Sets rested = new Sets(16);
+        private boolean[] sound = new boolean[16];
+        private int judged = 0;
 
         NodeStore(StatementStore statementStore) {
             this.statementStore = statementStore;
@@ -405,137 +417,114 @@ public final class ProofSeeker {
         }
 
         int size() {
-            return size;
+            return kept.size();
         }
 
         boolean holds(int n) {
-            return n >= 1 && n <= size;
+            return n >= 1 && n <= kept.size();
         }
 
-        int tagOf(int n) {
-            return tags.get(n);
+        /** Column 0 is the tag, 1 the goal, 2 3 4 are the parts. */
+        int read(int n, int column) {
+            return kept.get(n, column);
         }
 
         int goalOf(int n) {
-            return goals.get(n);
+            return kept.get(n, 1);
         }
 
-        int firstOf(int n) {
-            return firsts.get(n);
-        }
-
-        int secondOf(int n) {
-            return seconds.get(n);
-        }
-
-        int thirdOf(int n) {
-            return thirds.get(n);
+        /** The node's number, or FULL; parts that the tag has not are to be 0. */
+        int make(int tag, int goal, int a, int b, int c) {
+            int there = kept.find(tag, goal, a, b, c);
+            return there != 0 ? there : kept.append(tag, goal, a, b, c);
         }
 
         boolean isSound(int n) {
-            return sound.get(n) == 1;
+            judgeUpTo(n);
+            return n >= 1 && n < sound.length && sound[n];
         }
 
         int restCount(int n) {
+            judgeUpTo(n);
             return rested.count(n);
         }
 
         /** The least statement above f that n rests on; 0 if there is none. */
         int restAbove(int n, int f) {
+            judgeUpTo(n);
             return rested.leastShared(n, rested, n, f);
         }
 
-        /** The node's number, or FULL; parts that the tag has not are to be 0. */
-        int make(int tag, int goal, int a, int b, int c) {
-            int bucket = bucketOf(tag, goal, a, b, c);
-            int n = heads[bucket];
-            for (int seen = 0; n != 0 && seen < MOST_NODES; seen++) {
-                if (isMadeOf(n, tag, goal, a, b, c)) {
-                    return n;
-                }
-                n = earlier.get(n);
+        private void judgeUpTo(int last) {
+            if (last <= judged || last > kept.size()) {
+                return;
             }
-            if (size >= MOST_NODES) {
-                return FULL;
+            rested.reach(last);
+            if (last >= sound.length) {
+                boolean[] longer = new boolean[Math.max(last + 1, 2 * sound.length)];
+                System.arraycopy(sound, 0, longer, 0, sound.length);
+                sound = longer;
             }
-            size++;
-            earlier.put(size, heads[bucket]);
-            heads[bucket] = size;
-            write(size, tag, goal, a, b, c);
-            return size;
-        }
-
-        private boolean isMadeOf(int n, int tag, int goal, int a, int b, int c) {
-            return goalOf(n) == goal && tagOf(n) == tag
-                    && firstOf(n) == a && secondOf(n) == b && thirdOf(n) == c;
-        }
-
-        private void write(int n, int tag, int goal, int a, int b, int c) {
-            tags.put(n, tag);
-            goals.put(n, goal);
-            firsts.put(n, a);
-            seconds.put(n, b);
-            thirds.put(n, c);
-            sound.put(n, partsAreSound(n) && goalFits(n) ? 1 : 0);
-            writeRests(n);
+            for (int n = judged + 1; n <= last; n++) {
+                sound[n] = partsAreSound(n) && goalFits(n);
+                gatherRests(n);
+            }
+            judged = last;
         }
 
         private boolean partsAreSound(int n) {
-            int parts = partsOf(tagOf(n));
-            return (parts < 1 || isSound(firstOf(n)))
-                    && (parts < 2 || isSound(secondOf(n)))
-                    && (parts < 3 || isSound(thirdOf(n)));
+            int parts = partsOf(kept.get(n, 0));
+            for (int k = 1; k <= parts; k++) {
+                int part = kept.get(n, 1 + k);
+                if (part < 1 || part >= n || !sound[part]) {
+                    return false;
+                }
+            }
+            return true;
         }
 
         private boolean goalFits(int n) {
             int goal = goalOf(n);
-            int one = goalOf(firstOf(n));
-            int two = goalOf(secondOf(n));
-            int three = goalOf(thirdOf(n));
-            switch (tagOf(n)) {
+            int one = goalOf(kept.get(n, 2));
+            int two = goalOf(kept.get(n, 3));
+            int three = goalOf(kept.get(n, 4));
+            switch (kept.get(n, 0)) {
                 case GIVEN: return true;
-                case LAMBDA: return isOf(goal, IMPLIES) && statementStore.rightOf(goal) == one;
-                case APPLIED: return isJoin(one, IMPLIES, two, goal);
-                case PAIR: return isJoin(goal, AND, one, two);
-                case FIRST: return isOf(one, AND) && statementStore.leftOf(one) == goal;
-                case SECOND: return isOf(one, AND) && statementStore.rightOf(one) == goal;
-                case LEFT: return isOf(goal, OR) && statementStore.leftOf(goal) == one;
-                case RIGHT: return isOf(goal, OR) && statementStore.rightOf(goal) == one;
-                case CASES: return isOf(one, OR) && two == goal && three == goal;
-                case ABSURD: return isOf(one, FALSE);
+                case LAMBDA: return isWhole(IMPLIES, goal, statementStore.leftOf(goal), one);
+                case APPLIED: return isWhole(IMPLIES, one, two, goal);
+                case PAIR: return isWhole(AND, goal, one, two);
+                case FIRST: return isWhole(AND, one, goal, statementStore.rightOf(one));
+                case SECOND: return isWhole(AND, one, statementStore.leftOf(one), goal);
+                case LEFT: return isWhole(OR, goal, one, statementStore.rightOf(goal));
+                case RIGHT: return isWhole(OR, goal, statementStore.leftOf(goal), one);
+                case CASES: return statementStore.isOf(OR, one) && two == goal && three == goal;
+                case ABSURD: return statementStore.isOf(FALSE, one);
                 default: return false;
             }
         }
 
-        private boolean isOf(int f, int sort) {
-            return statementStore.holds(f) && statementStore.sortOf(f) == sort;
-        }
-
-        private boolean isJoin(int f, int sort, int left, int right) {
-            return isOf(f, sort)
+        private boolean isWhole(int sort, int f, int left, int right) {
+            return statementStore.isOf(sort, f)
                     && statementStore.leftOf(f) == left && statementStore.rightOf(f) == right;
         }
 
-        private void writeRests(int n) {
-            rested.clear(n);
+        private void gatherRests(int n) {
             int goal = goalOf(n);
-            int one = goalOf(firstOf(n));
-            int tag = tagOf(n);
+            int first = kept.get(n, 2);
+            int either = goalOf(first);
+            int tag = kept.get(n, 0);
             if (tag == GIVEN) {
                 rested.add(n, goal);
             } else if (tag == LAMBDA) {
-                rested.merge(n, firstOf(n), isOf(goal, IMPLIES) ? statementStore.leftOf(goal) : 0);
+                boolean leaves = statementStore.isOf(IMPLIES, goal);
+                rested.merge(n, first, leaves ? statementStore.leftOf(goal) : 0);
             } else {
-                boolean split = tag == CASES && isOf(one, OR);
-                rested.merge(n, firstOf(n), 0);
-                rested.merge(n, secondOf(n), split ? statementStore.leftOf(one) : 0);
-                rested.merge(n, thirdOf(n), split ? statementStore.rightOf(one) : 0);
+                // Row 0 is empty, so parts that are not there add nothing.
+                boolean leaves = tag == CASES && statementStore.isOf(OR, either);
+                rested.merge(n, first, 0);
+                rested.merge(n, kept.get(n, 3), leaves ? statementStore.leftOf(either) : 0);
+                rested.merge(n, kept.get(n, 4), leaves ? statementStore.rightOf(either) : 0);
             }
-        }
-
-        private static int bucketOf(int tag, int goal, int a, int b, int c) {
-            int mixed = (((tag * 31 + goal) * 31 + a) * 31 + b) * 31 + c;
-            return (mixed ^ mixed >>> 10) & BUCKETS - 1;
         }
     }
 
@@ -562,11 +551,10 @@ public final class ProofSeeker {
 
         /** By rule, how many sequents it leads to. */
         private static final int[] PREMISES = {0, 0, 0, 2, 1, 1, 2, 1, 1, 1, 1, 1, 1, 2};
+        /** Of a step: its goal, its way, and the steps of its sequents. */
+        private static final int WIDTH = 4;
 
-        private final Row goals = new Row();
-        private final Row ways = new Row();
-        private final Row firsts = new Row();
-        private final Row seconds = new Row();
+        private int[] cells = new int[16 * WIDTH];
 
         static int way(int rule, int taken) {
             return taken << 4 | rule;
@@ -585,31 +573,44 @@ public final class ProofSeeker {
         }
 
         int goalOf(int step) {
-            return goals.get(step);
+            return read(step, 0);
         }
 
         int wayOf(int step) {
-            return ways.get(step);
+            return read(step, 1);
         }
 
-        int firstOf(int step) {
-            return firsts.get(step);
+        /** The step of the k-th sequent, k being 1 or 2. */
+        int premiseOf(int step, int k) {
+            return read(step, 1 + k);
         }
 
-        int secondOf(int step) {
-            return seconds.get(step);
-        }
-
-        void setGoal(int step, int goal) {
-            goals.put(step, goal);
+        void begin(int step, int goal) {
+            write(step, 0, goal);
         }
 
         void setWay(int step, int way) {
-            ways.put(step, way);
+            write(step, 1, way);
         }
 
         void setPremise(int step, int k, int premise) {
-            (k == 1 ? firsts : seconds).put(step, premise);
+            write(step, 1 + k, premise);
+        }
+
+        private int read(int step, int column) {
+            int at = step * WIDTH + column;
+            return at >= 0 && at < cells.length ? cells[at] : 0;
+        }
+
+        private void write(int step, int column, int value) {
+            if (step < 0 || step > MOST_FUEL || column < 0 || column >= WIDTH) {
+                return;
+            }
+            int at = step * WIDTH + column;
+            if (at >= cells.length) {
+                cells = Arrays.copyOf(cells, Math.max(at + WIDTH, 2 * cells.length));
+            }
+            cells[at] = value;
         }
     }
 
@@ -620,7 +621,7 @@ public final class ProofSeeker {
         private final StatementStore statementStore;
         private final Derivation derivation;
         /** By depth, the given statements of the sequent that is looked at there. */
-        private final Sets given = new Sets();
+        private final Sets given = new Sets(DEEPEST + 2);
         private int fuel = 0;
         private int spent = 0;
 
@@ -651,7 +652,7 @@ public final class ProofSeeker {
             }
             spent++;
             int step = spent;
-            derivation.setGoal(step, goal);
+            derivation.begin(step, goal);
             int way = firstWay(goal, depth);
             for (int tries = 0; way != 0 && tries < MOST_WAYS; tries++) {
                 int answer = follow(step, way, depth);
@@ -663,15 +664,21 @@ public final class ProofSeeker {
             return NO;
         }
 
+        /** The step itself if all sequents that its way leads to are proved; or NO, OUT, FULL. */
         private int follow(int step, int way, int depth) {
             derivation.setWay(step, way);
-            int premises = Derivation.premisesOf(Derivation.ruleOf(way));
+            int goal = derivation.goalOf(step);
+            int rule = Derivation.ruleOf(way);
+            int f = Derivation.takenBy(way);
+            int premises = Derivation.premisesOf(rule);
             for (int k = 1; k <= premises; k++) {
-                int goal = preparePremise(step, k, depth);
-                if (goal < 0) {
-                    return goal;
+                given.copy(depth, depth + 1);
+                given.remove(depth + 1, f);
+                if (!bringNew(rule, k, f, depth + 1)) {
+                    return FULL;
                 }
-                int answer = look(goal, depth + 1);
+                bringParts(rule, k, rule == Derivation.GOAL_IS_IMPLIES ? goal : f, depth + 1);
+                int answer = look(goalOfPremise(rule, k, f, goal), depth + 1);
                 if (answer < 0) {
                     return answer;
                 }
@@ -681,7 +688,27 @@ public final class ProofSeeker {
         }
 
         private int firstWay(int goal, int depth) {
-            int sort = statementStore.sortOf(goal);
+            int way = wayByGoal(goal, depth);
+            if (way == 0) {
+                way = wayByGiven(depth);
+            }
+            if (way == 0 && statementStore.sortOf(goal) == OR) {
+                way = Derivation.way(Derivation.CHOOSES_LEFT, 0);
+            }
+            return way != 0 ? way : nestedAbove(depth, 0);
+        }
+
+        private int nextWay(int way, int depth) {
+            switch (Derivation.ruleOf(way)) {
+                case Derivation.CHOOSES_LEFT: return Derivation.way(Derivation.CHOOSES_RIGHT, 0);
+                case Derivation.CHOOSES_RIGHT: return nestedAbove(depth, 0);
+                case Derivation.CHOOSES_NESTED: return nestedAbove(depth, Derivation.takenBy(way));
+                default: return 0;
+            }
+        }
+
+        /** The document's rules 1 to 4. */
+        private int wayByGoal(int goal, int depth) {
             if (given.has(depth, goal)) {
                 return Derivation.way(Derivation.GOAL_IS_GIVEN, 0);
             }
@@ -689,20 +716,14 @@ public final class ProofSeeker {
             if (bottom != 0) {
                 return Derivation.way(Derivation.FALSE_IS_GIVEN, bottom);
             }
-            if (sort == AND) {
-                return Derivation.way(Derivation.GOAL_IS_AND, 0);
+            switch (statementStore.sortOf(goal)) {
+                case AND: return Derivation.way(Derivation.GOAL_IS_AND, 0);
+                case IMPLIES: return Derivation.way(Derivation.GOAL_IS_IMPLIES, 0);
+                default: return 0;
             }
-            if (sort == IMPLIES) {
-                return Derivation.way(Derivation.GOAL_IS_IMPLIES, 0);
-            }
-            int way = wayByGiven(depth);
-            if (way != 0) {
-                return way;
-            }
-            return sort == OR ? Derivation.way(Derivation.CHOOSES_LEFT, 0) : nestedAbove(depth, 0);
         }
 
-        /** The document's rules 5 to 10, which take up a given statement and never need undoing. */
+        /** The document's rules 5 to 10. */
         private int wayByGiven(int depth) {
             int f = leastOfKind(depth, AND, 0);
             if (f != 0) {
@@ -728,103 +749,79 @@ public final class ProofSeeker {
             return f != 0 ? Derivation.way(Derivation.TAKES_FROM_OR, f) : 0;
         }
 
-        private int nextWay(int way, int depth) {
-            switch (Derivation.ruleOf(way)) {
-                case Derivation.CHOOSES_LEFT: return Derivation.way(Derivation.CHOOSES_RIGHT, 0);
-                case Derivation.CHOOSES_RIGHT: return nestedAbove(depth, 0);
-                case Derivation.CHOOSES_NESTED: return nestedAbove(depth, Derivation.takenBy(way));
-                default: return 0;
-            }
-        }
-
         private int nestedAbove(int depth, int above) {
             int f = leastOfKind(depth, StatementStore.FROM + IMPLIES, above);
             return f != 0 ? Derivation.way(Derivation.CHOOSES_NESTED, f) : 0;
+        }
+
+        /** The least given implication from something that is given; 0 if there is none. */
+        private int leastFired(int depth) {
+            Sets kinds = statementStore.byKind();
+            int f = given.leastShared(depth, kinds, IMPLIES, 0);
+            for (int seen = 0; f != 0 && seen < MOST_STATEMENTS; seen++) {
+                if (given.has(depth, statementStore.leftOf(f))) {
+                    return f;
+                }
+                f = given.leastShared(depth, kinds, IMPLIES, f);
+            }
+            return 0;
         }
 
         private int leastOfKind(int depth, int kind, int above) {
             return given.leastShared(depth, statementStore.byKind(), kind, above);
         }
 
-        /** The least given implication from something that is given; 0 if there is none. */
-        private int leastFired(int depth) {
-            int f = leastOfKind(depth, IMPLIES, 0);
-            for (int seen = 0; f != 0 && seen < MOST_STATEMENTS; seen++) {
-                if (given.has(depth, statementStore.leftOf(f))) {
-                    return f;
-                }
-                f = leastOfKind(depth, IMPLIES, f);
+        /** Makes the implications that come by a rule, and gives them; false if room lacks. */
+        private boolean bringNew(int rule, int k, int f, int depth) {
+            int from = statementStore.leftOf(f);
+            int c = statementStore.leftOf(from);
+            int d = statementStore.rightOf(from);
+            int end = statementStore.rightOf(f);
+            int g = 0;
+            int h = 0;
+            if (rule == Derivation.TAKES_FROM_AND) {
+                int inner = statementStore.make(IMPLIES, d, end);
+                g = inner == FULL ? FULL : statementStore.make(IMPLIES, c, inner);
+            } else if (rule == Derivation.TAKES_FROM_OR) {
+                g = statementStore.make(IMPLIES, c, end);
+                h = g == FULL ? FULL : statementStore.make(IMPLIES, d, end);
+            } else if (rule == Derivation.CHOOSES_NESTED && k == 1) {
+                g = statementStore.make(IMPLIES, d, end);
             }
-            return 0;
+            given.add(depth, g);
+            given.add(depth, h);
+            return g != FULL && h != FULL;
         }
 
-        /** Sets what is given one level deeper for a step's k-th sequent: its goal, or FULL. */
-        private int preparePremise(int step, int k, int depth) {
-            int below = depth + 1;
-            int goal = derivation.goalOf(step);
-            int f = Derivation.takenBy(derivation.wayOf(step));
-            given.copy(depth, below);
-            given.remove(below, f);
-            switch (Derivation.ruleOf(derivation.wayOf(step))) {
+        /** Gives those parts of a statement that come by a rule. */
+        private void bringParts(int rule, int k, int whole, int depth) {
+            boolean left = rule == Derivation.GOAL_IS_IMPLIES || rule == Derivation.TAKES_AND
+                    || rule == Derivation.TAKES_OR && k == 1;
+            boolean right = rule == Derivation.TAKES_AND || rule == Derivation.TAKES_FIRED
+                    || rule == Derivation.TAKES_OR && k == 2
+                    || rule == Derivation.CHOOSES_NESTED && k == 2;
+            if (left) {
+                given.add(depth, statementStore.leftOf(whole));
+            }
+            if (right) {
+                given.add(depth, statementStore.rightOf(whole));
+            }
+        }
+
+        private int goalOfPremise(int rule, int k, int f, int goal) {
+            switch (rule) {
                 case Derivation.GOAL_IS_AND:
                     return k == 1 ? statementStore.leftOf(goal) : statementStore.rightOf(goal);
-                case Derivation.GOAL_IS_IMPLIES:
-                    given.add(below, statementStore.leftOf(goal));
-                    return statementStore.rightOf(goal);
-                case Derivation.TAKES_AND:
-                    given.add(below, statementStore.leftOf(f));
-                    given.add(below, statementStore.rightOf(f));
-                    return goal;
-                case Derivation.TAKES_OR:
-                    given.add(below, k == 1 ? statementStore.leftOf(f) : statementStore.rightOf(f));
-                    return goal;
-                case Derivation.TAKES_FIRED:
-                    given.add(below, statementStore.rightOf(f));
-                    return goal;
-                case Derivation.TAKES_FROM_AND:
-                    return curry(f, below) ? goal : FULL;
-                case Derivation.TAKES_FROM_OR:
-                    return splitFromOr(f, below) ? goal : FULL;
                 case Derivation.CHOOSES_LEFT:
                     return statementStore.leftOf(goal);
+                case Derivation.GOAL_IS_IMPLIES:
                 case Derivation.CHOOSES_RIGHT:
                     return statementStore.rightOf(goal);
                 case Derivation.CHOOSES_NESTED:
-                    return prepareNested(f, k, goal, below);
+                    return k == 1 ? statementStore.leftOf(f) : goal;
                 default:
                     return goal;
             }
-        }
-
-        private boolean curry(int f, int below) {
-            int both = statementStore.leftOf(f);
-            int inner = statementStore.make(
-                    IMPLIES, statementStore.rightOf(both), statementStore.rightOf(f));
-            return inner > 0 && comes(below, statementStore.leftOf(both), inner);
-        }
-
-        private boolean splitFromOr(int f, int below) {
-            int either = statementStore.leftOf(f);
-            int end = statementStore.rightOf(f);
-            return comes(below, statementStore.leftOf(either), end)
-                    && comes(below, statementStore.rightOf(either), end);
-        }
-
-        private int prepareNested(int f, int k, int goal, int below) {
-            int end = statementStore.rightOf(f);
-            if (k == 2) {
-                given.add(below, end);
-                return goal;
-            }
-            int inner = statementStore.leftOf(f);
-            return comes(below, statementStore.rightOf(inner), end) ? inner : FULL;
-        }
-
-        /** Makes an implication and adds it to what is given; false if there is no room. */
-        private boolean comes(int depth, int from, int to) {
-            int f = statementStore.make(IMPLIES, from, to);
-            given.add(depth, f);
-            return f > 0;
         }
     }
 
@@ -855,8 +852,8 @@ public final class ProofSeeker {
             }
             int goal = derivation.goalOf(step);
             int f = Derivation.takenBy(derivation.wayOf(step));
-            int one = derivation.firstOf(step);
-            int two = derivation.secondOf(step);
+            int one = derivation.premiseOf(step, 1);
+            int two = derivation.premiseOf(step, 2);
             int below = depth + 1;
             switch (Derivation.ruleOf(derivation.wayOf(step))) {
                 case Derivation.GOAL_IS_GIVEN:
@@ -909,9 +906,9 @@ public final class ProofSeeker {
             int both = statementStore.leftOf(f);
             int c = statementStore.leftOf(both);
             int d = statementStore.rightOf(both);
-            int inner = implication(d, statementStore.rightOf(f));
+            int g = implication(c, implication(d, statementStore.rightOf(f)));
             return apply(
-                    lambda(implication(c, inner), t),
+                    lambda(g, t),
                     lambda(c, lambda(d, apply(given(f), make(PAIR, both, given(c), given(d), 0)))));
         }
 
@@ -945,27 +942,27 @@ public final class ProofSeeker {
         }
 
         private int given(int f) {
-            return make(GIVEN, f, 0, 0, 0);
+            return full ? FULL : noted(nodeStore.make(GIVEN, f, 0, 0, 0));
         }
 
         private int lambda(int from, int t) {
             if (full) {
                 return FULL;
             }
-            int goal = statementStore.make(IMPLIES, from, nodeStore.goalOf(t));
-            full = goal == FULL;
-            return make(LAMBDA, goal, t, 0, 0);
+            int goal = noted(statementStore.make(IMPLIES, from, nodeStore.goalOf(t)));
+            return full ? FULL : noted(nodeStore.make(LAMBDA, goal, t, 0, 0));
         }
 
         private int apply(int t, int u) {
-            return make(APPLIED, statementStore.rightOf(nodeStore.goalOf(t)), t, u, 0);
+            int goal = statementStore.rightOf(nodeStore.goalOf(t));
+            return full ? FULL : noted(nodeStore.make(APPLIED, goal, t, u, 0));
         }
 
         private int make(int tag, int goal, int a, int b, int c) {
-            if (full) {
-                return FULL;
-            }
-            int made = nodeStore.make(tag, goal, a, b, c);
+            return full ? FULL : noted(nodeStore.make(tag, goal, a, b, c));
+        }
+
+        private int noted(int made) {
             full = made == FULL;
             return made;
         }

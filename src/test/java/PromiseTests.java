@@ -30,6 +30,7 @@ public final class PromiseTests {
         ruleNine();
         ruleTen();
         ruleElevenOr();
+        ruleElevenOrThenNested();
         ruleElevenNested();
         ruleElevenGoesOn();
         leastFirst();
@@ -329,6 +330,20 @@ public final class PromiseTests {
         due("rule 11, neither: used", z.used(), 3);
     }
 
+    /** Neither part of the goal can be proved by itself: the nested one is tried after both. */
+    private static void ruleElevenOrThenNested() {
+        ProofSeeker x = withAtoms(3);
+        x.join(IMPLIES, 1, 1);
+        x.join(OR, 2, 3);
+        x.join(IMPLIES, 4, 5);
+        x.join(OR, 3, 2);
+        x.join(IMPLIES, 6, 7);
+        due("an OR by a nested one", x.proves(x.prove(8, 3000)), 1);
+        // 8, 7; for 3: 3, 4, 1, 3 from the OR, 3 from 2; for 2: 2, 4, 1, 2, 2, 2 from 3; by 6:
+        // 4, 1, 7 from the OR, 7 from 2: 3, 2, and 7 from 3: 3.
+        due("an OR by a nested one: used", x.used(), 21);
+    }
+
     private static void ruleElevenNested() {
         ProofSeeker x = withAtoms(3);
         x.join(IMPLIES, 1, 2);
@@ -478,14 +493,15 @@ public final class PromiseTests {
     private static void fullNodes() {
         for (int room = 0; room <= 2; room++) {
             ProofSeeker x = filledTo(597 - room);
+            int same = x.join(IMPLIES, 5, 5);
             int and = x.join(AND, 5, 7);
             int f = x.join(IMPLIES, and, 5);
-            x.join(OR, f, f);
             String run = "FULL among nodes with room for " + room;
             due(run, x.prove(f, 3000), room < 2 ? FULL : 9);
             due(run + ": nodes stay", x.nodes(), room < 2 ? 1 + room : 9);
             due(run + ": statements", x.statements(), 600);
             due(run + ": used", x.used(), 3);
+            due(run + ": what needs no room is proved still", x.proves(x.prove(same, 9)), 1);
         }
     }
 
@@ -632,6 +648,8 @@ public final class PromiseTests {
         int left = x.node(6, 6, 1, 0, 0);
         int cases = x.node(8, 6, 6, left, right);
         restsAre("CASES that leaves both out", x, cases, 6);
+        restsAre("CASES, A is left out of the first part never", x, x.node(8, 3, left, 3, 3), 1, 3);
+        restsAre("CASES, B neither", x, x.node(8, 3, right, 3, 3), 2, 3);
         int or = x.node(0, x.join(OR, 2, 1), 0, 0, 0);
         restsAre("CASES of another OR", x, x.node(8, 6, or, left, right), 1, 2, x.of(or, 1));
         for (int wrong : row(0, -1, x.nodes() + 1, LEAST, MOST)) {
@@ -646,7 +664,8 @@ public final class PromiseTests {
         restsAre("LAMBDA of no implication", x, x.node(1, 6, pair, 0, 0), 1, 2);
         restsAre("LAMBDA whose part has another goal", x, x.node(1, 7, pair, 0, 0), 2);
         restsAre("CASES of no OR", x, x.node(8, 5, 5, pair, pair), 1, 2, 5);
-        restsAre("CASES of an AND like an OR", x, x.node(8, 5, pair, pair, pair), 1, 2);
+        restsAre("CASES of an AND", x, x.node(8, 1, 5, 1, 2), 1, 2, 5);
+        restsAre("CASES of an implication", x, x.node(8, 1, 7, 1, 2), 1, 2, 7);
         restsAre("CASES with other goals", x, x.node(8, 7, 6, pair, 2), 2, 6);
     }
 
