@@ -405,7 +405,8 @@ public final class ProofSeeker {
         private final Kept kept = new Kept(MOST_NODES);
         /** By node, what it rests on. */
         private final Sets rested = new Sets(16);
-        private boolean[] sound = new boolean[16];
+        /** By node, 1 if it is well made. */
+        private int[] sound = new int[16];
         private int judged = 0;
 
         NodeStore(StatementStore statementStore) {
@@ -441,7 +442,7 @@ public final class ProofSeeker {
 
         boolean isSound(int n) {
             judgeUpTo(n);
-            return n >= 1 && n < sound.length && sound[n];
+            return n >= 1 && n < sound.length && sound[n] == 1;
         }
 
         int restCount(int n) {
@@ -461,12 +462,10 @@ public final class ProofSeeker {
             }
             rested.reach(last);
             if (last >= sound.length) {
-                boolean[] longer = new boolean[Math.max(last + 1, 2 * sound.length)];
-                System.arraycopy(sound, 0, longer, 0, sound.length);
-                sound = longer;
+                sound = Arrays.copyOf(sound, Math.max(last + 1, 2 * sound.length));
             }
             for (int n = judged + 1; n <= last; n++) {
-                sound[n] = partsAreSound(n) && goalFits(n);
+                sound[n] = partsAreSound(n) && goalFits(n) ? 1 : 0;
                 gatherRests(n);
             }
             judged = last;
@@ -476,7 +475,7 @@ public final class ProofSeeker {
             int parts = partsOf(kept.get(n, 0));
             for (int k = 1; k <= parts; k++) {
                 int part = kept.get(n, 1 + k);
-                if (part < 1 || part >= n || !sound[part]) {
+                if (part < 1 || part >= n || sound[part] != 1) {
                     return false;
                 }
             }
