@@ -19,37 +19,6 @@ public final class LogicTests {
         CHECKS.end();
     }
 
-    /** Reads a statement: a to z are atoms, 0 is FALSE, (p&q), (p|q), (p>q), ~p for (p>0). */
-    private static final class Reader {
-        private final ProofSeeker x;
-        private final String text;
-        private int at = 0;
-
-        Reader(ProofSeeker x, String text) {
-            this.x = x;
-            this.text = text;
-        }
-
-        int read() {
-            char c = text.charAt(at++);
-            if (c == '0') {
-                return x.falsehood();
-            }
-            if (c == '~') {
-                int negated = read();
-                return x.join(IMPLIES, negated, x.falsehood());
-            }
-            if (c != '(') {
-                return x.atom(c - 'a');
-            }
-            int left = read();
-            char sign = text.charAt(at++);
-            int right = read();
-            at++;
-            return x.join(sign == '&' ? AND : sign == '|' ? OR : IMPLIES, left, right);
-        }
-    }
-
     private static void knownOnes() {
         String[] theorems = {
             "(a>a)", "(a>(b>a))", "(0>a)", "((a&b)>(b&a))", "((a|b)>(b|a))", "(a>~~a)", "(~~~a>~a)",
@@ -65,13 +34,14 @@ public final class LogicTests {
             "((a>b)>(~a|b))", "((~a>(b|c))>((~a>b)|(~a>c)))", "(a&b)", "(a>b)"
         };
         for (String text : theorems) {
-            ProofSeeker x = new ProofSeeker();
-            int answer = x.prove(new Reader(x, text).read(), 3000);
-            CHECKS.due("proves " + text, x.proves(answer), 1);
+            Run x = new Run(CHECKS, text);
+            int answer = x.prove(x.read(text), 3000);
+            x.due(1).proves(answer);
         }
         for (String text : others) {
-            ProofSeeker x = new ProofSeeker();
-            CHECKS.due("prove " + text, x.prove(new Reader(x, text).read(), 3000), ProofSeeker.NO);
+            Run x = new Run(CHECKS, text);
+            int f = x.read(text);
+            x.due(ProofSeeker.NO).prove(f, 3000);
         }
     }
 

@@ -1,9 +1,10 @@
-/** The promises of the document one by one, with answers worked out by hand from its words. */
+/**
+ * The promises of the document one by one, with answers worked out by hand from its words: what
+ * calls answer by the way, each rule of the search, and wrong inputs. Edges have tests of their own.
+ */
 public final class PromiseTests {
     private static final int BAD = ProofSeeker.BAD;
     private static final int NO = ProofSeeker.NO;
-    private static final int FULL = ProofSeeker.FULL;
-    private static final int OUT = ProofSeeker.OUT;
     private static final int AND = 2;
     private static final int OR = 3;
     private static final int IMPLIES = 4;
@@ -35,11 +36,6 @@ public final class PromiseTests {
         ruleElevenGoesOn();
         leastFirst();
         rulesInOrder();
-        fuel();
-        depth();
-        fullSearch();
-        fullNodes();
-        wantedBeforeLookedAt();
         nodes();
         nodeParts();
         wellMade();
@@ -118,10 +114,6 @@ public final class PromiseTests {
             due("atom(" + wrong + ")", x.atom(wrong), BAD);
         }
         due("statements after wrong atoms", x.statements(), 2);
-        ProofSeeker full = filledTo(600);
-        due("an atom that is there, without room", full.atom(0), 1);
-        due("an atom that is not, without room", full.atom(1), FULL);
-        due("a wrong atom, without room", full.atom(32), BAD);
     }
 
     // Promise 3.
@@ -130,10 +122,6 @@ public final class PromiseTests {
         due("falsehood()", x.falsehood(), 2);
         due("falsehood() again", x.falsehood(), 2);
         due("statements", x.statements(), 2);
-        due("falsehood() without room", filledTo(600).falsehood(), FULL);
-        ProofSeeker last = filledTo(599);
-        due("falsehood() as the last", last.falsehood(), 600);
-        due("falsehood() again without room", last.falsehood(), 600);
     }
 
     // Promise 4.
@@ -153,10 +141,6 @@ public final class PromiseTests {
             due("join of 1 and " + wrong, x.join(IMPLIES, 1, wrong), BAD);
         }
         due("statements after wrong joins", x.statements(), 7);
-        ProofSeeker full = filledTo(600);
-        due("a join that is there, without room", full.join(AND, 1, 1), 2);
-        due("a join that is not, without room", full.join(AND, 600, 600), FULL);
-        due("a wrong join, without room", full.join(AND, 600, 601), BAD);
     }
 
     // Promise 5.
@@ -239,6 +223,12 @@ public final class PromiseTests {
         proofIs("rule 3", x, 3, 4, row(0, 1), row(3, 2, 1, 1), row(1, 3, 2));
         due("rule 3: the AND alone", x.prove(2, 3000), NO);
         due("rule 3: the second one is not looked at", x.used(), 2);
+        ProofSeeker y = withAtoms(2);
+        y.join(AND, 2, 1);
+        y.join(IMPLIES, 2, 3);
+        y.join(IMPLIES, 1, 4);
+        proofIs("rule 3, the first part first", y, 5, 5,
+                row(0, 2), row(0, 1), row(3, 3, 1, 2), row(1, 4, 3), row(1, 5, 4));
     }
 
     private static void ruleFive() {
@@ -405,121 +395,6 @@ public final class PromiseTests {
         due("rules in order: used", x.used(), 4);
     }
 
-    private static void fuel() {
-        ProofSeeker x = withAtoms(2);
-        x.join(IMPLIES, 1, 2);
-        x.join(IMPLIES, 3, 2);
-        x.join(IMPLIES, 1, 4);
-        for (int fuel = 0; fuel <= 3; fuel++) {
-            due("prove with fuel " + fuel, x.prove(5, fuel), OUT);
-            due("used with fuel " + fuel, x.used(), fuel);
-            due("nodes with fuel " + fuel, x.nodes(), 0);
-        }
-        due("prove with just enough", x.prove(5, 4), 8);
-        due("used with just enough", x.used(), 4);
-        due("prove with none again", x.prove(5, 0), OUT);
-        due("used with none again", x.used(), 0);
-    }
-
-    private static void depth() {
-        ProofSeeker x = withAtoms(2);
-        int f = 2;
-        for (int k = 1; k <= 79; k++) {
-            f = x.join(IMPLIES, 1, f);
-        }
-        due("80 deep", x.prove(f, 3000), NO);
-        due("80 deep: used", x.used(), 80);
-        due("80 deep with less fuel", x.prove(f, 79), OUT);
-        due("80 deep with less fuel: used", x.used(), 79);
-        int deeper = x.join(IMPLIES, 1, f);
-        due("81 deep", x.prove(deeper, 3000), OUT);
-        due("81 deep: used", x.used(), 3000);
-        due("81 deep with fuel 100", x.prove(deeper, 100), OUT);
-        due("81 deep with fuel 100: used", x.used(), 100);
-        ProofSeeker y = withAtoms(1);
-        int g = y.join(IMPLIES, 1, 1);
-        for (int k = 2; k <= 79; k++) {
-            g = y.join(IMPLIES, 1, g);
-        }
-        due("a proof 80 deep", y.prove(g, 80), 80);
-        due("a proof 80 deep proves", y.proves(80), 1);
-        due("a proof 81 deep", y.prove(y.join(IMPLIES, 1, g), 3000), OUT);
-    }
-
-    /**
-     * An object with so many statements: 1 is atom 0, 2 its AND with itself, 3, 5, 7 .. are atoms
-     * 2, 3, 4 .., and those between are ANDs, the last one of all atoms but atom 1; each search
-     * from that one leaves two statements for each of its parts.
-     */
-    private static ProofSeeker filledTo(int wanted) {
-        ProofSeeker x = new ProofSeeker();
-        int all = x.join(AND, x.atom(0), 1);
-        for (int i = 2; i < 32; i++) {
-            all = x.join(AND, all, x.atom(i));
-        }
-        for (int i = 2; i < 32 && x.statements() < wanted - 80; i++) {
-            int q = x.join(OR, x.atom(i), 1);
-            x.prove(x.join(IMPLIES, x.join(IMPLIES, all, q), 3), 3000);
-        }
-        int last = all;
-        for (int k = 0; k < 200 && x.statements() < wanted; k++) {
-            last = x.join(OR, last, all);
-        }
-        due("filling statements", x.statements(), wanted);
-        return x;
-    }
-
-    private static void fullSearch() {
-        for (int sort : row(AND, OR, IMPLIES)) {
-            int needs = sort == AND || sort == OR ? 2 : 1;
-            for (int room = 0; room <= needs; room++) {
-                ProofSeeker x = filledTo(596 - room);
-                int from = x.join(IMPLIES, x.join(sort, 5, 7), 9);
-                int f = x.join(IMPLIES, from, 11);
-                x.join(OR, f, f);
-                due("one room for " + room, x.statements(), 600 - room);
-                String run = "FULL by " + sort + " with room for " + room;
-                due(run, x.prove(f, 3000), room < needs ? FULL : NO);
-                due(run + ": statements stay", x.statements(), 600);
-                due(run + ": nodes", x.nodes(), 0);
-                if (room < needs) {
-                    due(run + ": used", x.used(), 2);
-                }
-            }
-        }
-    }
-
-    /** In rule 5 two goals are new: those nodes that come before the one without room stay. */
-    private static void fullNodes() {
-        for (int room = 0; room <= 2; room++) {
-            ProofSeeker x = filledTo(597 - room);
-            int same = x.join(IMPLIES, 5, 5);
-            int and = x.join(AND, 5, 7);
-            int f = x.join(IMPLIES, and, 5);
-            String run = "FULL among nodes with room for " + room;
-            due(run, x.prove(f, 3000), room < 2 ? FULL : 9);
-            due(run + ": nodes stay", x.nodes(), room < 2 ? 1 + room : 9);
-            due(run + ": statements", x.statements(), 600);
-            due(run + ": used", x.used(), 3);
-            due(run + ": what needs no room is proved still", x.proves(x.prove(same, 9)), 1);
-        }
-    }
-
-    /** A statement that comes is made before the fuel for its sequent is asked for. */
-    private static void wantedBeforeLookedAt() {
-        ProofSeeker x = withAtoms(4);
-        int f = x.join(IMPLIES, x.join(IMPLIES, x.join(OR, 1, 2), 3), 4);
-        due("fuel for what comes lacks", x.prove(f, 2), OUT);
-        due("it was made all the same: g", x.join(IMPLIES, 1, 3), 8);
-        due("it was made all the same: h", x.join(IMPLIES, 2, 3), 9);
-        due("nothing else was", x.statements(), 9);
-        ProofSeeker y = withAtoms(4);
-        int g = y.join(IMPLIES, y.join(IMPLIES, y.join(AND, 1, 2), 3), 4);
-        due("rule 9 makes two", y.prove(g, 2), OUT);
-        due("rule 9: D IMPLIES B first", y.join(IMPLIES, 2, 3), 8);
-        due("rule 9: then g", y.join(IMPLIES, 1, 8), 9);
-    }
-
     // Promises 10 and 11.
 
     private static void nodes() {
@@ -679,13 +554,6 @@ public final class PromiseTests {
         }
         for (int wrong : row(0, -1, x.nodes() + 1, LEAST, MOST)) {
             due("restsOn(" + wrong + ", 0)", x.restsOn(wrong, 0), BAD);
-        }
-        ProofSeeker full = filledTo(600);
-        for (int f : row(63, 64, 65, 128, 599, 600)) {
-            int n = full.node(0, f, 0, 0, 0);
-            due("restsOn just above", full.restsOn(n, f - 1), f);
-            due("restsOn far above", full.restsOn(n, 0), f);
-            due("restsOn itself", full.restsOn(n, f), NO);
         }
     }
 
