@@ -53,6 +53,7 @@ public final class EdgeTests {
         isTrueWhich();
         isTrueBits();
         lastCall();
+        laterCalls();
         CHECKS.end();
     }
 
@@ -698,5 +699,21 @@ public final class EdgeTests {
         x.due(5).nodes();
         x.due(5).used();
         CHECKS.due("calls that were made", x.calls(), Run.MOST_CALLS);
+    }
+
+    // "what later calls answer is free", but by LANGUAGE.md's rule 7 they end, and throw nothing.
+
+    private static void laterCalls() {
+        ProofSeeker x = new ProofSeeker();
+        int last = x.atom(0);
+        for (int k = 0; k < 700; k++) {
+            last = x.join(2 + k % 3, Math.max(last, 1), 1 + k / 2);
+            x.prove(1 + k, 3000);
+        }
+        for (int k = 0; k < 9000; k++) {
+            x.node(k % 10, 1 + k % 600, k, k - 1, k - 2);
+            x.proves(k);
+        }
+        CHECKS.that("later calls end", x.statements() >= 0 && x.nodes() >= 0);
     }
 }
