@@ -19,6 +19,8 @@ record Example(
         new Example("rule 10", "(((a|b)>c)>(a>c))", 5, 5, 20, 1, 3, 3),
         new Example("rule 11, LEFT", "((a>a)|b)", 3, 3, 3, 0, 0, 0),
         new Example("rule 11, RIGHT", "(b|(a>a))", 4, 3, 3, 0, 0, 0),
+        new Example("rule 11, LEFT from what is given", "(a>(a|b))", 3, 3, 3, 0, 0, 0),
+        new Example("rule 11, RIGHT from what is given", "(a>(b|a))", 4, 3, 3, 0, 0, 0),
         new Example("rule 11, t deeper", "(((a>b)>c)>(b>c))", 6, 5, 13, 0, 0, 2),
         new Example("rule 11, u deeper", "(((a>a)>b)>((b>(b>c))>c))", 8, 6, 22, 1, 3, 3),
         new Example("an atom in vain", "a", 1, 1, 0, 0, 0, 0),

@@ -23,6 +23,7 @@ public final class NoRoomTests {
         noStatementMore();
         askedOfTheLastStatement();
         restsOnTheLastStatements();
+        leavesOutTheLastStatements();
         lastNode();
         noNodeMore();
         askedOfTheLastNode();
@@ -36,6 +37,7 @@ public final class NoRoomTests {
             noRoomIsNeeded(example);
         }
         whichOfTwoIsMade();
+        lastStatementIsGiven();
         fullEndsAll();
         fullBeforeFuelLacks();
         goalsOfOneProof();
@@ -187,6 +189,31 @@ public final class NoRoomTests {
         x.due(NO).restsOn(all, 601);
     }
 
+    // "1 on what its part rests on, but A": that one alone, wherever it is kept.
+
+    private static void leavesOutTheLastStatements() {
+        Run x = run("leaves out the last statements");
+        leaveStatements(x, 6);
+        int[] on = {1, 64, 65, 129, 577, 594};
+        int all = x.node(GIVEN, on[0], 0, 0, 0);
+        for (int k = 1; k < on.length; k++) {
+            all = x.node(PAIR, 1, all, x.node(GIVEN, on[k], 0, 0, 0), 0);
+        }
+        for (int out = 0; out < on.length; out++) {
+            x.due(595 + out).join(Run.IMPLIES, on[out], 1);
+            int n = x.node(LAMBDA, 595 + out, all, 0, 0);
+            x.due(on.length - 1).rests(n);
+            int last = 0;
+            for (int k = 0; k < on.length; k++) {
+                if (k != out) {
+                    x.due(on[k]).restsOn(n, last);
+                    last = on[k];
+                }
+            }
+            x.due(NO).restsOn(n, last);
+        }
+    }
+
     // "PROOFS are nodes, kept once each, numbered from 1, at most 8000"
 
     private static void lastNode() {
@@ -314,6 +341,27 @@ public final class NoRoomTests {
         leaveStatements(y, 1);
         y.due(FULL).prove(g, 3000);
         y.statementIs(600, Run.IMPLIES, 1, 4);
+    }
+
+    /** The last statement comes, and a rule takes it up; the search goes on as ever after it. */
+    private static void lastStatementIsGiven() {
+        Run x = run("rule 7 takes up the last statement");
+        int f = x.read("(((a|b)>c)>(b>d))");
+        x.read("(a>c)");
+        leaveStatements(x, 1);
+        // f; b>d; d given f and b; by rule 10 given a>c, b>c; by rule 7 given a>c, c.
+        x.due(NO).prove(f, 3000);
+        x.due(5).used();
+        x.statementIs(600, Run.IMPLIES, 2, 4);
+        Run y = run("rule 11 takes up the last statement");
+        int g = y.read("((((a>b)&c)>d)>a)");
+        int inner = y.read("(c>d)");
+        y.read("(b>(c>d))");
+        leaveStatements(y, 1);
+        // g; a; by rule 9 a, given (a>b)>(c>d); by rule 11 a>b, and b, given b>(c>d).
+        y.due(NO).prove(g, 3000);
+        y.due(5).used();
+        y.statementIs(600, Run.IMPLIES, 3, inner);
     }
 
     // "where there is no room for one the search ends"
