@@ -1,3 +1,5 @@
+import java.util.Random;
+
 /** Runs in which the room for statements or for nodes ends, held against the reference. */
 public final class FullRunTests {
     private static final int AND = 2;
@@ -16,6 +18,12 @@ public final class FullRunTests {
         for (int z = 0; z < 20; z++) {
             nodesEnd(z);
         }
+        int ends = 0;
+        for (int seed = 1; seed <= 300; seed++) {
+            ends += statementsEndByChance(seed);
+        }
+        System.out.println("FULL " + ends);
+        CHECKS.that("room ended in " + ends + " searches by chance", ends > 200);
         CHECKS.end();
     }
 
@@ -71,6 +79,38 @@ public final class FullRunTests {
         x.used();
         CHECKS.that("within 512 calls", x.calls() <= 512);
         x.compareAll();
+    }
+
+    /** Statements by chance, proved with little room: how many of them end in FULL. */
+    private static int statementsEndByChance(int seed) {
+        Random random = new Random(seed);
+        Twins x = new Twins(CHECKS, "by chance " + seed);
+        int[] targets = new int[6];
+        for (int k = 0; k < targets.length; k++) {
+            targets[k] = formula(x, random, 3 + random.nextInt(2));
+        }
+        fillStatements(x, MOST_STATEMENTS - random.nextInt(5));
+        int ends = 0;
+        for (int f : targets) {
+            ends += x.prove(f, random.nextInt(3) == 0 ? random.nextInt(30) : 3000)
+                    == ProofSeeker.FULL ? 1 : 0;
+            x.used();
+            x.statements();
+            x.nodes();
+        }
+        CHECKS.that("within 512 calls: " + x.calls(), x.calls() <= 512);
+        x.compareAll();
+        return ends;
+    }
+
+    private static int formula(Twins x, Random random, int depth) {
+        if (depth == 0 || random.nextInt(6) == 0) {
+            return random.nextInt(6) == 0 ? x.falsehood() : x.atom(random.nextInt(4));
+        }
+        int a = formula(x, random, depth - 1);
+        int b = formula(x, random, depth - 1);
+        int sort = random.nextInt(5);
+        return x.join(sort < 2 ? AND + sort : IMPLIES, a, b);
     }
 
     /** A search from a long AND leaves two statements for each of its parts. */
